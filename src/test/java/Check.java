@@ -1,5 +1,16 @@
 /** What all tests of the project share: answers that are due, and texts that are fed. */
 final class Check {
+    /**
+     * Its NIGHTS: first turn side (14), first turn (12), first side (10), first low (9). Turn KILLS a, so that nothing that
+     * low tells can come behind it.
+     */
+    static final String HOUSE = "role a; role b; role c;"
+        + " actor x pay 3 breath 100; actor y pay 1 breath 30 not a; actor z pay 1 breath 12;"
+        + " scene low lines 2 with a ends 1; scene side lines 5 with b ends 2;"
+        + " scene turn lines 3 with a b then side tear low laugh low kills a;"
+        + " scene first lines 4 with b c ends 3 then turn tear side laugh low;"
+        + " kind one lots 1 tears 4 laughs 4 sleeps 0; kind two lots 3 tears 0 laughs 8 sleeps 8;";
+
     private int wrong = 0;
     private int asked = 0;
 
