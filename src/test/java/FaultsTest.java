@@ -104,6 +104,10 @@ public final class FaultsTest {
         stage("role a; scene s lines 1 kills #;", 2);
         stage("kind k lots 1 tears 1 laughs 1 #;", 2);
         stage("kind k lots 1 #laughs 1;", 2);
+        stage("kind k lots 1 tears 1 laughs 1 sleeps 1 #sleeps 1;", 2);
+        stage("kind k lots 1 tears 1 laughs 1 sleeps 1#", 2);
+        stage("actor a pay 1 breath 1 #breath", 2);
+        stage("scene s lines 1 kills#", 2);
         for (String word : ("role actor pay breath not scene lines with ends then tear laugh sleep kills kind lots tears"
             + " laughs sleeps play bar open buy spare when seen dead nights ended loop end stop").split(" ")) {
             stage("role #" + word + ";", 2);

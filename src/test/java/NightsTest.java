@@ -59,6 +59,8 @@ public final class NightsTest {
             + "scene own lines 3 with a ends 3 then fin laugh last kills a;");
         night(y, "", 6, 2, 3);
         night(y, "2", 4, 3, 3);
+        OneSeat twice = Check.with("role a; scene e lines 1 with a; scene f lines 1 then e kills a; scene g lines 1 then f kills a;");
+        night(twice, "", 6, -1, 0);
         OneSeat z = Check.with("scene a lines 1 ends 0; scene b lines 1 tear a; scene c lines 1 sleep b;");
         night(z, "", 4, -1, 0);
         night(z, "3", 6, -1, 0);
@@ -110,6 +112,13 @@ public final class NightsTest {
         x.bar(3, true);
         CHECK.due(x, "lot: BARRED", x.lot(0), -1, 9);
         CHECK.due(x, "lot(-1): BARRED", x.lot(-1), -1, 5);
+        // the draws by 10 of seeds 0 to 9 are 8, 1, 4, 7, 9, 2, 5, 8, 1, 4
+        OneSeat three = Check.with("scene a lines 1; kind k lots 2 tears 0 laughs 0 sleeps 0; kind l lots 3 tears 0 laughs 0 sleeps 0;"
+            + "kind m lots 5 tears 0 laughs 0 sleeps 0;");
+        int[] kinds = {2, 0, 1, 2, 2, 1, 2, 2, 0, 1};
+        for (int seed = 0; seed < kinds.length; seed++) {
+            CHECK.due(three, "lot of three KINDS " + seed, three.lot(seed), kinds[seed], 0);
+        }
         OneSeat y = Check.with("scene a lines 1;");
         CHECK.due(y, "lot(-1): no KINDS", y.lot(-1), -1, 5);
         CHECK.due(y, "lot: no KINDS", y.lot(0), -1, 8);

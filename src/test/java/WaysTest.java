@@ -29,6 +29,11 @@ public final class WaysTest {
         CHECK.due(x, "length(2): b DEAD", x.length(2), -1, 5);
         OneSeat y = Check.with("scene a lines 1; scene b lines 1 then a tear a laugh a sleep a;");
         CHECK.due(y, "unlike rows alone", y.ways(), 1, 0);
+        CHECK.due("longest at once", Check.with(Check.HOUSE).length(0), 3);
+        CHECK.due("shortest at once", Check.with(Check.HOUSE).length(1), 2);
+        OneSeat twice = Check.with("role a; scene e lines 1 with a; scene f lines 1 then e kills a; scene g lines 1 then f tear e kills a;");
+        CHECK.due(twice, "KILLED twice is KILLED", twice.length(0), 2, 0);
+        steer(twice, 9, 1);
     }
 
     private static void promises32and33() {
@@ -37,6 +42,8 @@ public final class WaysTest {
         CHECK.due(x, "ENDINGS", x.can(1), 518, 0);
         CHECK.due(x, "can(2)", x.can(2), -1, 5);
         CHECK.due(x, "can(-1)", x.can(-1), -1, 5);
+        CHECK.due("by at once", Check.with(Check.HOUSE).by(2), 516);
+        CHECK.due("ENDINGS at once", Check.with(Check.HOUSE).can(1), 518);
         int[] by = {2, 4, 516, 518};
         for (int scene = 0; scene < 4; scene++) {
             CHECK.due(x, "by " + scene, x.by(scene), by[scene], 0);

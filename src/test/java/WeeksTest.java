@@ -56,6 +56,9 @@ public final class WeeksTest {
         CHECK.due(y, "no WEEK, 5", y.run(-1), -1, 5);
         CHECK.due(y, "none ran", y.ran(0), -1, 8);
         week("", 0, 0, 0, 0, 0, 0);
+        OneSeat z = with(FEW, "play cry; when seen low; stop; end; play ha; bar first; play;");
+        run(z, "once", 0, 2, 5, 11, 6, 23, 1);
+        run(z, "a second time", 0, 2, 5, 11, 6, 23, 1);
     }
 
     private static void promise41draws() {
