@@ -7,6 +7,7 @@ public final class EdgesCastingTest {
     public static void main(String[] args) {
         deathRefused();
         death();
+        deathOfAlmostNothing();
         deathOfTheDead();
         deathWithoutANight();
         castRefused();
@@ -68,6 +69,17 @@ public final class EdgesCastingTest {
         OneSeat v = Check.with("role p; role q; scene a lines 1 with q ends 0;" + IDLE);
         death(v, 0, 1, 1, 1);
         EDGES.no(v, 8, "none: it is 0 before and then", v.death(9));
+    }
+
+    private static void deathOfAlmostNothing() {
+        EDGES.says(37, "would change the odds of an ENDING by LOT the most");
+        StringBuilder b = new StringBuilder("role m; role n; role o; role p; role q; role r; scene a lines 1 with r ends 0;");
+        for (char c = 'b'; c < 'm'; c++) {
+            b.append("scene s").append(c).append(" lines 1 tear ").append(c == 'b' ? "" : "s").append((char) (c - 1)).append(';');
+        }
+        OneSeat x = Check.with(b + "kind k lots 1 tears 1 laughs 0 sleeps 0;");
+        death(x, 0, 5, 1, 1L << 44);
+        death(x, 9, 5, 1, 1L << 44);
     }
 
     private static void deathOfTheDead() {
@@ -210,6 +222,11 @@ public final class EdgesCastingTest {
         }
         OneSeat x = Check.with(b.toString());
         cast(x, 7, 140 * (99 + 98 + 97 + 96 + 95 + 94), 0, 1, 2, 3, 4, 5);
+        StringBuilder twelve = new StringBuilder("role a; role b; actor x pay 2 breath 999; actor y pay 3 breath 999;");
+        for (char c = 'a'; c < 'm'; c++) {
+            twelve.append("scene s").append(c).append(c == 'l' ? " lines 1 with b a;" : " lines 1 with a;");
+        }
+        cast(Check.with(twelve.toString()), 7, 7 * 12 * 2 + 7 * 3, 0, 1);
         // 140 BREATHS are enough for two ROLES of 60: the last three ACTORS have two each
         cast(x, 3, 120 * (96 + 95 + 94), 3, 3, 4, 4, 5, 5);
     }

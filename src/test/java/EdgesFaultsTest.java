@@ -22,6 +22,7 @@ public final class EdgesFaultsTest {
         everyTokenOfAWeek();
         ends();
         names();
+        unlikeNames();
         newNames();
         namesToldAhead();
         namesOfAWeek();
@@ -229,6 +230,27 @@ public final class EdgesFaultsTest {
         EDGES.faultyStage(2, "scene zzzzzzzz lines 1; scene s lines 1 then #zzzzzzzzz;");
         EDGES.faultyStage(2, "role zzzzzzzz; scene s lines 1 kills #zzzzzzzzzzzzzzzzzzzzzzzzzzzzzzzzzzzz;");
         EDGES.faultyWeek(2, "buy #zzzzzzzzz;");
+    }
+
+    private static void unlikeNames() {
+        EDGES.says(12, "NAME: a WORD of 1 to 8 letters");
+        for (int at = 0; at < 8; at++) {
+            String ahead = "hgfedcba".substring(0, at);
+            String behind = "hgfedcba".substring(at + 1);
+            for (char c = 'a'; c < 'z'; c++) {
+                for (char d = (char) (c + 1); d <= 'z'; d++) {
+                    unlike(ahead + c, ahead + d);
+                    unlike(ahead + c + behind, ahead + d + behind);
+                }
+            }
+        }
+        right("role a; role aa; role aaa; role aaaa; role aaaaaaa; role aaaaaaaa;", 0);
+        right("role z; role za; role az; role zz; role aza; role zaz;", 0);
+    }
+
+    private static void unlike(String name, String other) {
+        String text = "role " + name + ";role " + other + ";";
+        EDGES.due(text, Check.stage(new OneSeat(), text), 0);
     }
 
     private static void newNames() {

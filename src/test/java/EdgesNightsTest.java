@@ -449,5 +449,12 @@ public final class EdgesNightsTest {
         Check.night(x, "2");
         Check.night(x, "1");
         EDGES.fine(x, "one between others", x.suspects(8), 0);
+        StringBuilder b = new StringBuilder("role p; role q; scene a lines 1 with q ends 3;");
+        for (char c = 'b'; c < 'm'; c++) {
+            b.append("scene ").append(c).append(" lines 1 with p q then ").append((char) (c - 1)).append(';');
+        }
+        OneSeat twelve = Check.with(b.toString());
+        Check.night(twelve, "");
+        EDGES.fine(twelve, "who is in all twelve", twelve.suspects(3), 2);
     }
 }

@@ -24,6 +24,7 @@ public final class EdgesWaysTest {
         steerLeast();
         steerKilled();
         steerAt();
+        fewerBehindMore();
         EDGES.finish(30, 36);
     }
 
@@ -183,6 +184,8 @@ public final class EdgesWaysTest {
         EDGES.fine(x, "one SCENE", x.fewest(), 1);
         OneSeat y = Check.with(ALONE + "scene b lines 1;");
         EDGES.fine(y, "what can't be SEEN is left out", y.fewest(), 1);
+        OneSeat two = Check.with(ALONE + "scene b lines 1 tear a;");
+        EDGES.fine(two, "FIRST and SCENE 0", two.fewest(), 1);
         OneSeat z = Check.with(STAR);
         EDGES.fine(z, "a star", z.fewest(), 4);
         for (int k = 0; k < 4; k++) {
@@ -197,6 +200,10 @@ public final class EdgesWaysTest {
         OneSeat g = Check.with("scene a lines 1; scene b lines 1; scene c lines 1; scene d lines 1 then c tear a; scene e lines 1 then d tear b;"
             + "scene f lines 1 then e tear d;");
         EDGES.fine(g, "three ends", g.fewest(), 3);
+        // g f e a, g d c b are two; g b a, which begins with SCENE 0 too, would need g d c and g f e
+        OneSeat h = Check.with("role r; scene a lines 1 with r; scene b lines 1 tear a; scene c lines 1 tear b kills r; scene d lines 1 then c;"
+            + "scene e lines 1 tear a; scene f lines 1 then e; scene g lines 1 then f tear d laugh b;");
+        EDGES.fine(h, "two, though others have three", h.fewest(), 2);
     }
 
     private static void fewestTheMost() {
@@ -292,10 +299,10 @@ public final class EdgesWaysTest {
         x.kill(0, true);
         row(x, 2, 1, 0, 0);
         EDGES.no(x, 8, "its ROLE is DEAD", x.steer(1));
-        // c comes by a LAUGH alone where q is KILLED; r, KILLED far ahead, still counts behind the next KILL
-        OneSeat y = Check.with("role q; role r; scene a lines 1 with r; scene b lines 1 ends 6 tear a kills q; scene c lines 1 with q then b;"
-            + "scene d lines 1 then b kills q; scene e lines 1 then d laugh c kills r;");
-        row(y, 6, 0, 0, 0);
+        // e KILLS r, who is still KILLED three SCENES later, behind another KILL: the CURTAIN falls by a TEAR alone
+        OneSeat y = Check.with("role q; role r; scene z lines 1; scene a lines 1 with r; scene b lines 1 ends 6 then z tear a;"
+            + "scene c lines 1 then b kills q; scene d lines 1 then c; scene e lines 1 then d kills r;");
+        row(y, 6, 0, 0, 0, 1);
     }
 
     private static void steerAt() {
@@ -317,5 +324,30 @@ public final class EdgesWaysTest {
         x.bar(3, true);
         row(x, 5, 3);
         EDGES.no(x, 8, "a shorter one leaves none of the longer", x.steerAt(1));
+    }
+
+    /** Nothing of a larger STAGE may be left behind. */
+    private static void fewerBehindMore() {
+        EDGES.says(31, "A STAGE that is taken is there in place of that ahead");
+        OneSeat x = Check.with(ladder(ALONE, "tear", "laugh", "sleep"));
+        EDGES.fine(x, "rows of the larger", x.ways(), 1104);
+        Check.stage(x, "scene a lines 1; scene b lines 1 then a; scene c lines 1 then b;");
+        EDGES.fine(x, "SHORTEST", x.length(1), 3);
+        x.stage(0);
+        Check.stage(x, ladder(ALONE, "tear", "laugh", "sleep"));
+        x.ways();
+        Check.stage(x, ALONE);
+        EDGES.fine(x, "LONGEST", x.length(0), 1);
+        EDGES.fine(x, "CAN", x.can(0), 1);
+        EDGES.says(34, "A STAGE that is taken is there in place of that ahead");
+        OneSeat y = Check.with("scene a lines 1; scene b lines 1 then a; scene c lines 1 then b tear a;");
+        EDGES.fine(y, "FEWEST of the larger", y.fewest(), 1);
+        Check.stage(y, "scene a lines 1; scene b lines 1; scene c lines 1 then b tear a;");
+        EDGES.fine(y, "FEWEST", y.fewest(), 2);
+        EDGES.says(35, "A STAGE that is taken is there in place of that ahead");
+        OneSeat z = Check.with("scene a lines 1; scene b lines 1; scene c lines 1 then a; scene d lines 1 then c tear b laugh a;");
+        row(z, 9, 1, 0);
+        Check.stage(z, "scene a lines 1 ends 1; scene b lines 1 then a; scene c lines 1; scene d lines 1 then c tear b;");
+        row(z, 1, 1, 0, 0);
     }
 }
