@@ -1794,19 +1794,23 @@ public final class OneSeat {
         }
 
         /** Goes one deeper a ROLE, six at the most; the least ACTORS come first, so only less PAY is better. */
-        private void choose(Stage stage, int role, int pay) {
+        private void choose(Stage stage, int from, int pay) {
             if (leastPay != NONE && pay >= leastPay) {
                 return;
+            }
+            int role = from;
+            while (role < stage.roles && role < MOST_ROLES && beside[role] == 0) {
+                role++;
             }
             if (role >= stage.roles || role >= MOST_ROLES) {
                 leastPay = pay;
                 System.arraycopy(tried, 0, best, 0, MOST_ROLES);
                 return;
             }
-            if (beside[role] == 0) {
-                choose(stage, role + 1, pay);
-                return;
-            }
+            tryActors(stage, role, pay);
+        }
+
+        private void tryActors(Stage stage, int role, int pay) {
             for (int actor = 0; actor < stage.actors; actor++) {
                 if (mayPlay(stage, actor, role)) {
                     tried[role] = actor;

@@ -100,6 +100,26 @@ public final class RulesTest {
             say("import " + imports.group(1), imports.group(1).matches("java\\.util\\.(Arrays|ArrayList|List|Iterator)"));
         }
         shortMethods(code);
+        recursion(code);
+    }
+
+    /** Rule 8: a method that calls itself is private and static; other recursion goes through methods that call one another. */
+    private static void recursion(String code) {
+        Pattern header = Pattern.compile("( {4}| {8})((?:private |public |static )*)[A-Za-z\\[\\]]+ ([a-zA-Z]+)\\(.*\\) \\{");
+        String head = "";
+        String name = null;
+        int methods = 0;
+        for (String line : code.split("\n")) {
+            Matcher m = header.matcher(line);
+            if (m.matches()) {
+                head = m.group(2);
+                name = m.group(3);
+                methods++;
+            } else if (name != null && Pattern.compile("(?<![\\w.])" + name + "\\(").matcher(line).find()) {
+                say(name + " calls itself: private static", head.equals("private static "));
+            }
+        }
+        say("the methods of the code are found: " + methods, methods > 150);
     }
 
     private static void shortMethods(String code) {
